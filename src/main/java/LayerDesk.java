@@ -182,7 +182,7 @@ public final class LayerDesk {
 
     private boolean addRoots() {
         for (int i = 0; i < written.words; i++) {
-            if (!chooser.addName(written.nameAt(i), 0)) {
+            if (!chooser.addRoot(written.nameAt(i))) {
                 return false;
             }
         }
@@ -212,7 +212,8 @@ public final class LayerDesk {
 
     private boolean isParentOfOpen(Layer parent) {
         for (int n = 0; n < made; n++) {
-            if (layers[n].open && layers[n].parent == parent) {
+            Layer other = openLayer(n);
+            if (other != null && other.parent == parent) {
                 return true;
             }
         }
@@ -222,7 +223,7 @@ public final class LayerDesk {
     private int countOpen() {
         int open = 0;
         for (int n = 0; n < made; n++) {
-            if (layers[n].open) {
+            if (openLayer(n) != null) {
                 open++;
             }
         }
@@ -600,26 +601,8 @@ public final class LayerDesk {
             size = 0;
         }
 
-        /** False when something is missing; what came on the way is still there then. */
-        boolean addName(int name, int depth) {
-            Descriptor found = shelf.find(finder, name);
-            if (found == null) {
-                return parent != null && parent.lookUp(name) != null;
-            }
-            if (isChosen(found)) {
-                return true;
-            }
-            if (size >= DESCRIPTORS_MOST || depth >= DESCRIPTORS_MOST) {
-                return false;
-            }
-            chosen[size] = found;
-            size++;
-            for (int i = 0; i < found.required.size; i++) {
-                if (!found.optional[i] && !addName(found.required.at(i), depth + 1)) {
-                    return false;
-                }
-            }
-            return true;
+        boolean addRoot(int name) {
+            return addName(name, 0);
         }
 
         void bind() {
@@ -642,6 +625,28 @@ public final class LayerDesk {
             return draft;
         }
 
+        /** False when something is missing; what came on the way is still there then. */
+        private boolean addName(int name, int depth) {
+            Descriptor found = shelf.find(finder, name);
+            if (found == null) {
+                return parent != null && parent.lookUp(name) != null;
+            }
+            if (isChosen(found)) {
+                return true;
+            }
+            if (size >= DESCRIPTORS_MOST || depth >= DESCRIPTORS_MOST) {
+                return false;
+            }
+            chosen[size] = found;
+            size++;
+            for (int i = 0; i < found.required.size; i++) {
+                if (!found.optional[i] && !addName(found.required.at(i), depth + 1)) {
+                    return false;
+                }
+            }
+            return true;
+        }
+
         private boolean isChosen(Descriptor descriptor) {
             for (int k = 0; k < size; k++) {
                 if (chosen[k] == descriptor) {
@@ -652,7 +657,7 @@ public final class LayerDesk {
         }
 
         private void bindOnce() {
-            for (int k = 0; k < size; k++) {
+            for (int k = 0; k < size && k < DESCRIPTORS_MOST; k++) {
                 bindUsesOf(chosen[k]);
             }
             for (Layer above = parent; above != null; above = above.parent) {

@@ -23,6 +23,7 @@ public final class LayerTest {
         bindingForThoseAbove();
         bindingInPasses();
         boundModulesMakeFaults();
+        twelveInARow();
         Check.end();
     }
 
@@ -267,6 +268,10 @@ public final class LayerTest {
         c.modules(1, 0, 1, 4, 3, 2, 5);
         c.layer("g d", 0, -1, true, 2);
         c.modules(2, 6, 3, 5);
+        Check first = new Check();
+        first.lines("module 0 a", "provides s", "module 0 b", "uses s");
+        first.layer("b", 0, -1, true, 0);
+        first.modules(0, 1, 0);
     }
 
     private static void bindingGoesBack() {
@@ -319,5 +324,19 @@ public final class LayerTest {
         c.fault(2);
         c.layer("a", 1, -1, false, 1);
         c.fault(0);
+    }
+
+    private static void twelveInARow() {
+        Check c = new Check();
+        for (char n = 'a'; n < 'l'; n++) {
+            c.lines("module 0 " + n, "requires transitive " + (char) (n + 1), "provides s");
+        }
+        c.lines("module 0 l", "uses s");
+        c.layer("a", 0, -1, false, 0);
+        c.modules(0, 0, 1, 2, 3, 4, 5, 6, 7, 8, 9, 10, 11);
+        c.reads(0, 0, 0, 11, true);
+        c.reads(0, 11, 0, 0, false);
+        c.layer("l", 0, 0, true, 1);
+        c.modules(1, 11, 0, 1, 2, 3, 4, 5, 6, 7, 8, 9, 10);
     }
 }

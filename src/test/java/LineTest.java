@@ -78,7 +78,8 @@ public final class LineTest {
             "requires transitive static", "requires static transitive b", "requires static static b",
             "requires transitive transitive b", "requires b c", "requires transitive b c",
             "requires transitive static b c", "requires Static b", "requires abcde", "uses", "uses s t", "uses S",
-            "uses abcde", "provides", "provides s t", "provides 1", "provides abcde", "close", "0", "to"}) {
+            "uses abcde", "provides", "provides s t", "provides 1", "provides abcde", "close", "0", "to",
+            "a b c d e f g h i j k l m n o p q r s t"}) {
             c.line(text, IAE);
             c.lineIsEmpty();
         }

@@ -7,6 +7,8 @@ public final class ReadingTest {
         readsDirectly();
         readsTransitively();
         readsThroughLayersAbove();
+        readsThroughTwoLayersAbove();
+        readsInAnyOrder();
         neverItself();
         readsWhatIsNotThere();
         loads();
@@ -83,6 +85,42 @@ public final class ReadingTest {
         c.reads(0, 0, 2, 1, false);
     }
 
+    private static void readsThroughTwoLayersAbove() {
+        Check c = new Check();
+        c.lines("module 0 d", "module 0 c", "requires transitive d", "module 1 b", "requires transitive c",
+                "module 0 a", "requires b", "module 0 e", "requires transitive b", "module 0 f", "requires e");
+        c.layer("c", 0, -1, false, 0);
+        c.layer("b", 1, 0, false, 1);
+        c.layer("a f", 0, 1, false, 2);
+        c.modules(2, 3, 5, 4);
+        for (int k = 0; k < 3; k++) {
+            c.reads(2, k, 1, 2, true);
+            c.reads(2, k, 0, 1, true);
+            c.reads(2, k, 0, 0, true);
+        }
+        c.reads(1, 0, 0, 0, true);
+        c.reads(2, 1, 2, 4, true);
+    }
+
+    /** Whatever place the modules between have in the layer. */
+    private static void readsInAnyOrder() {
+        String[] orders = {"a b c", "a c b", "b a c", "b c a", "c a b", "c b a"};
+        for (String order : orders) {
+            Check c = new Check();
+            c.lines("module 0 a", "requires transitive static b", "module 0 b", "requires transitive static c",
+                    "module 0 c", "requires transitive static d", "module 0 d");
+            c.layer("d", 0, -1, false, 0);
+            c.layer(order, 0, 0, false, 1);
+            for (int k = 0; k < 3; k++) {
+                int reader = c.desk.module(1, k);
+                for (int other = 0; other < 3; other++) {
+                    c.reads(1, k, 1, other, other > reader);
+                }
+                c.reads(1, k, 0, 3, true);
+            }
+        }
+    }
+
     private static void neverItself() {
         Check c = new Check();
         c.lines("module 0 a", "requires b", "package p", "exports p", "module 0 b",
@@ -121,31 +159,25 @@ public final class ReadingTest {
 
     private static void loads() {
         Check c = new Check();
-        c.lines("module 0 a", "package p", "requires b", "requires static d", "module 0 b", "package q", "exports q",
-                "package r", "exports r to a", "package s", "exports s to c", "package t", "opens t", "package p",
-                "requires transitive c", "module 0 c", "package u", "exports u", "package s", "requires b");
-        c.layer("a", 0, -1, false, Check.ISE);
-        c.fault(1);
-        Check d = new Check();
-        d.lines("module 0 a", "package p", "requires b", "module 0 b", "package q", "exports q", "package r",
+        c.lines("module 0 a", "package p", "requires b", "module 0 b", "package q", "exports q", "package r",
                 "exports r to e", "exports r to a", "package s", "exports s to c", "package t", "opens t", "package p",
                 "requires transitive c", "module 0 c", "package u", "exports u", "module 0 d", "package v", "exports v");
-        d.layer("d a", 0, -1, false, 0);
-        d.modules(0, 3, 0, 1, 2);
-        d.load("p", 0, 1, 0);
-        d.lineIsEmpty();
-        d.load("q", 0, 1, 1);
-        d.load(" r  ", 0, 1, 1);
-        d.load("u", 0, 1, 2);
-        d.load("p", 0, 2, 1);
-        d.load("s", 0, 2, 1);
-        d.load("v", 0, 0, 3);
-        d.load("s", 0, 1, NSEE);
-        d.lineIsEmpty();
-        d.load("t", 0, 1, NSEE);
-        d.load("v", 0, 1, NSEE);
-        d.load("zzzz", 0, 1, NSEE);
-        d.load("q", 0, 3, NSEE);
+        c.layer("d a", 0, -1, false, 0);
+        c.modules(0, 3, 0, 1, 2);
+        c.load("p", 0, 1, 0);
+        c.lineIsEmpty();
+        c.load("q", 0, 1, 1);
+        c.load(" r  ", 0, 1, 1);
+        c.load("u", 0, 1, 2);
+        c.load("p", 0, 2, 1);
+        c.load("s", 0, 2, 1);
+        c.load("v", 0, 0, 3);
+        c.load("s", 0, 1, NSEE);
+        c.lineIsEmpty();
+        c.load("t", 0, 1, NSEE);
+        c.load("v", 0, 1, NSEE);
+        c.load("zzzz", 0, 1, NSEE);
+        c.load("q", 0, 3, NSEE);
     }
 
     private static void loadsFromAbove() {
