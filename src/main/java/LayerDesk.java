@@ -717,7 +717,7 @@ public final class LayerDesk {
         final Descriptor descriptor;
         /** What each required name is; null for a static one that is not found. */
         private final Member[] required;
-        /** What it leads to by requires that are not static, in its own layer. */
+        /** What it leads to by requires that are not static; ways above are cut, none leads back. */
         final Reach leading = new Reach();
         /** What those that require it read through it. */
         final Reach carried = new Reach();
