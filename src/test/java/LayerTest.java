@@ -24,6 +24,7 @@ public final class LayerTest {
         bindingInPasses();
         boundModulesMakeFaults();
         twelveInARow();
+        elevenAreBound();
         Check.end();
     }
 
@@ -56,15 +57,15 @@ public final class LayerTest {
         c.lines("module 0 a", "module 0 b", "module 0 c", "module 1 d");
         c.layer("  c   a b ", 0, -1, false, 0);
         c.lineIsEmpty();
-        c.modules(0, 2, 0, 1);
+        c.members(0, 2, 0, 1);
         c.layer("b b b", 0, -1, false, 1);
-        c.modules(1, 1);
+        c.members(1, 1);
         c.layer("d", 0, -1, false, NSEE);
         c.lineIsEmpty();
         c.layer("d a", 1, 0, false, 2);
-        c.modules(2, 3);
+        c.members(2, 3);
         c.layer("a", 1, 0, false, 3);
-        c.modules(3);
+        c.members(3);
         c.counts(4, 4, 4);
     }
 
@@ -73,9 +74,9 @@ public final class LayerTest {
         c.lines("module 0 a", "requires b", "requires static e", "requires c", "module 0 b", "requires d", "module 0 c",
                 "module 0 d", "requires c", "module 0 e", "module 0 f", "requires transitive a");
         c.layer("a e", 0, -1, false, 0);
-        c.modules(0, 0, 1, 3, 2, 4);
+        c.members(0, 0, 1, 3, 2, 4);
         c.layer("d f", 0, -1, false, 1);
-        c.modules(1, 3, 2, 5, 0, 1);
+        c.members(1, 3, 2, 5, 0, 1);
     }
 
     private static void missing() {
@@ -83,18 +84,18 @@ public final class LayerTest {
         c.lines("module 0 a", "requires b", "module 0 b", "requires transitive c", "module 1 c",
                 "module 0 d", "requires static c", "requires transitive static e", "module 0 g", "requires c");
         c.layer("a", 0, -1, false, NSEE);
-        c.fault(0);
+        c.faultIs(0);
         c.layer("d a", 0, -1, true, NSEE);
         c.layer("z", 0, -1, false, NSEE);
         c.counts(5, 0, 0);
         c.layer("d", 0, -1, false, 0);
-        c.modules(0, 3);
+        c.members(0, 3);
         c.layer("a", 0, 0, false, NSEE);
         c.layer("c", 1, 0, false, 1);
         c.layer("a", 0, 1, false, 2);
-        c.modules(2, 0, 1);
+        c.members(2, 0, 1);
         c.layer("g", 0, 2, false, 3);
-        c.modules(3, 4);
+        c.members(3, 4);
     }
 
     private static void finderBeforeParent() {
@@ -102,11 +103,11 @@ public final class LayerTest {
         c.lines("module 0 a", "requires b", "module 0 b", "module 1 b", "module 1 e", "requires b");
         c.layer("a", 0, -1, false, 0);
         c.layer("a", 0, 0, false, 1);
-        c.modules(1, 0, 1);
+        c.members(1, 0, 1);
         c.reads(1, 0, 1, 1, true);
         c.reads(1, 0, 0, 1, false);
         c.layer("e", 1, 1, false, 2);
-        c.modules(2, 3, 2);
+        c.members(2, 3, 2);
         c.reads(2, 0, 2, 2, true);
         c.reads(2, 0, 1, 1, false);
     }
@@ -116,14 +117,14 @@ public final class LayerTest {
         c.lines("module 0 a", "requires b", "module 0 b", "requires c", "module 0 c", "requires transitive a",
                 "module 0 d", "requires a", "module 0 e");
         c.layer("a", 0, -1, false, ISE);
-        c.fault(1);
+        c.faultIs(1);
         c.lineIsEmpty();
         c.layer("d", 0, -1, false, ISE);
-        c.fault(1);
+        c.faultIs(1);
         c.layer("e", 0, -1, false, 0);
-        c.fault(0);
+        c.faultIs(0);
         c.layer("e c", 0, 0, true, ISE);
-        c.fault(1);
+        c.faultIs(1);
         c.counts(5, 1, 1);
     }
 
@@ -132,33 +133,33 @@ public final class LayerTest {
         c.lines("module 0 a", "requires b", "module 0 b", "requires static a", "module 0 c",
                 "requires transitive static a", "module 1 b", "requires a");
         c.layer("a c", 0, -1, false, 0);
-        c.fault(0);
+        c.faultIs(0);
         c.layer("b", 1, 0, false, 1);
-        c.modules(1, 3);
-        c.fault(0);
+        c.members(1, 3);
+        c.faultIs(0);
     }
 
     private static void splits() {
         Check own = new Check();
         own.lines("module 0 a", "package p", "requires b", "module 0 b", "package q", "package p", "exports p");
         own.layer("a", 0, -1, false, ISE);
-        own.fault(2);
+        own.faultIs(2);
         own.counts(2, 0, 0);
         Check two = new Check();
         two.lines("module 0 a", "requires b", "module 0 b", "package p", "exports p to a", "requires transitive c",
                 "module 0 c", "package p", "exports p to a", "module 0 d", "requires a");
         two.layer("a", 0, -1, false, ISE);
-        two.fault(2);
+        two.faultIs(2);
         two.layer("d", 0, -1, false, ISE);
-        two.fault(2);
+        two.faultIs(2);
         two.layer("c", 0, -1, false, 0);
         two.layer("b", 0, 0, false, 1);
-        two.fault(0);
+        two.faultIs(0);
         Check above = new Check();
         above.lines("module 0 a", "package p", "exports p", "module 1 b", "package p", "requires a");
         above.layer("a", 0, -1, false, 0);
         above.layer("b", 1, 0, false, ISE);
-        above.fault(2);
+        above.faultIs(2);
         above.counts(2, 1, 1);
     }
 
@@ -167,14 +168,14 @@ public final class LayerTest {
         c.lines("module 0 a", "package p", "requires b", "requires c", "module 0 b", "package p", "exports p to c",
                 "opens p", "module 0 c", "package p", "opens p to a", "module 0 d", "package p", "exports p");
         c.layer("a d", 0, -1, false, 0);
-        c.modules(0, 0, 1, 2, 3);
-        c.fault(0);
+        c.members(0, 0, 1, 2, 3);
+        c.faultIs(0);
         Check reader = new Check();
         reader.lines("module 0 a", "package p", "exports p", "module 0 b", "package p", "exports p to a",
                 "requires static a");
         reader.layer("b", 0, -1, false, 0);
         reader.layer("b a", 0, -1, false, ISE);
-        reader.fault(2);
+        reader.faultIs(2);
     }
 
     /** A module may read another one of its own descriptor that is in a layer above. */
@@ -188,7 +189,7 @@ public final class LayerTest {
         c.reads(2, 0, 0, 1, true);
         c.reads(2, 0, 2, 1, false);
         c.layer("a", 0, 1, false, ISE);
-        c.fault(2);
+        c.faultIs(2);
     }
 
     private static void firstThatHolds() {
@@ -196,9 +197,9 @@ public final class LayerTest {
         c.lines("module 0 a", "requires b", "package p", "module 0 b", "requires a", "package p", "exports p",
                 "module 0 c", "requires a", "requires z", "module 0 d");
         c.layer("a", 0, -1, false, ISE);
-        c.fault(1);
+        c.faultIs(1);
         c.layer("c", 0, -1, false, NSEE);
-        c.fault(0);
+        c.faultIs(0);
         c.layer("c", 3, -1, false, IAE);
         c.layer("c", 0, 7, false, IAE);
         c.layer("C", 0, -1, false, IAE);
@@ -206,11 +207,11 @@ public final class LayerTest {
             c.layer("d", 0, n - 1, false, n);
         }
         c.layer("c", 0, -1, false, NSEE);
-        c.fault(0);
+        c.faultIs(0);
         c.layer("c", 0, 5, false, IAE);
-        c.fault(0);
+        c.faultIs(0);
         c.layer("a", 0, 4, false, ISE);
-        c.fault(1);
+        c.faultIs(1);
     }
 
     private static void sixthLayerIsLookedAt() {
@@ -222,39 +223,39 @@ public final class LayerTest {
             c.layer("d", 1, n - 1, false, n);
         }
         c.layer("b", 1, 4, false, ISE);
-        c.fault(2);
+        c.faultIs(2);
         c.layer("c", 1, 4, true, ISE);
-        c.fault(3);
+        c.faultIs(3);
         c.lineIsEmpty();
         c.close(4, true);
         c.layer("c", 1, 3, false, ISE);
-        c.fault(3);
+        c.faultIs(3);
         c.counts(4, 5, 4);
         c.line("package q", ISE);
         c.lines("module 1 e");
         c.layer("e", 1, 3, false, ISE);
-        c.fault(3);
+        c.faultIs(3);
         c.lines("package q");
     }
 
     private static void faultIsOfTheLatest() {
         Check c = new Check();
-        c.fault(0);
+        c.faultIs(0);
         c.lines("module 0 a", "requires b", "module 0 b", "requires a", "module 0 c");
         c.layer("a", 0, -1, false, ISE);
-        c.fault(1);
-        c.fault(1);
+        c.faultIs(1);
+        c.faultIs(1);
         c.lines("package p");
         c.line("package p", IAE);
-        c.fault(1);
+        c.faultIs(1);
         c.layer("", 0, -1, false, IAE);
-        c.fault(0);
+        c.faultIs(0);
         c.layer("a", 0, -1, false, ISE);
         c.layer("z", 0, -1, false, NSEE);
-        c.fault(0);
+        c.faultIs(0);
         c.layer("a", 0, -1, false, ISE);
         c.layer("c", 0, -1, false, 0);
-        c.fault(0);
+        c.faultIs(0);
     }
 
     private static void bindingOrder() {
@@ -263,15 +264,15 @@ public final class LayerTest {
                 "provides t", "module 0 d", "provides s", "uses u", "module 0 e", "module 0 f", "provides u",
                 "module 0 g", "provides v", "module 1 h", "provides s");
         c.layer("a", 0, -1, false, 0);
-        c.modules(0, 0);
+        c.members(0, 0);
         c.layer("a", 0, -1, true, 1);
-        c.modules(1, 0, 1, 4, 3, 2, 5);
+        c.members(1, 0, 1, 4, 3, 2, 5);
         c.layer("g d", 0, -1, true, 2);
-        c.modules(2, 6, 3, 5);
+        c.members(2, 6, 3, 5);
         Check first = new Check();
         first.lines("module 0 a", "provides s", "module 0 b", "uses s");
         first.layer("b", 0, -1, true, 0);
-        first.modules(0, 1, 0);
+        first.members(0, 1, 0);
     }
 
     private static void bindingGoesBack() {
@@ -280,10 +281,10 @@ public final class LayerTest {
                 "provides s", "requires b", "module 0 d", "provides s", "requires static z", "module 0 e",
                 "uses t", "module 0 f", "provides t");
         c.layer("a", 0, -1, true, 0);
-        c.modules(0, 0, 3);
-        c.fault(0);
+        c.members(0, 0, 3);
+        c.faultIs(0);
         c.layer("a e", 0, -1, true, 1);
-        c.modules(1, 0, 4, 3, 5);
+        c.members(1, 0, 4, 3, 5);
     }
 
     private static void bindingForThoseAbove() {
@@ -293,12 +294,12 @@ public final class LayerTest {
         c.layer("a", 0, -1, false, 0);
         c.layer("b", 0, 0, false, 1);
         c.layer("e", 1, 1, true, 2);
-        c.modules(2, 4, 5, 2, 3);
+        c.members(2, 4, 5, 2, 3);
         c.layer("g", 1, 1, true, Check.NSEE);
         c.layer("b", 1, 1, true, 3);
-        c.modules(3, 2, 3);
+        c.members(3, 2, 3);
         c.layer("b", 1, 1, false, 4);
-        c.modules(4);
+        c.members(4);
     }
 
     /** What comes for a layer above is asked for its own uses in the next pass. */
@@ -307,9 +308,9 @@ public final class LayerTest {
         c.lines("module 0 a", "uses s", "module 1 b", "provides s", "uses t", "module 1 c", "provides t", "uses u",
                 "module 1 d", "provides s", "module 1 e", "provides u");
         c.layer("a", 0, -1, true, 0);
-        c.modules(0, 0);
+        c.members(0, 0);
         c.layer("a", 1, 0, true, 1);
-        c.modules(1, 1, 3, 2, 4);
+        c.members(1, 1, 3, 2, 4);
     }
 
     private static void boundModulesMakeFaults() {
@@ -319,24 +320,32 @@ public final class LayerTest {
                 "package p");
         c.layer("a", 0, -1, false, 0);
         c.layer("a", 0, -1, true, ISE);
-        c.fault(1);
+        c.faultIs(1);
         c.layer("a", 1, -1, true, ISE);
-        c.fault(2);
+        c.faultIs(2);
         c.layer("a", 1, -1, false, 1);
-        c.fault(0);
+        c.faultIs(0);
     }
 
     private static void twelveInARow() {
         Check c = new Check();
         for (char n = 'a'; n < 'l'; n++) {
-            c.lines("module 0 " + n, "requires transitive " + (char) (n + 1), "provides s");
+            c.lines("module 0 " + n, "requires transitive " + (char) (n + 1));
         }
-        c.lines("module 0 l", "uses s");
+        c.lines("module 0 l");
         c.layer("a", 0, -1, false, 0);
-        c.modules(0, 0, 1, 2, 3, 4, 5, 6, 7, 8, 9, 10, 11);
+        c.members(0, 0, 1, 2, 3, 4, 5, 6, 7, 8, 9, 10, 11);
         c.reads(0, 0, 0, 11, true);
         c.reads(0, 11, 0, 0, false);
-        c.layer("l", 0, 0, true, 1);
-        c.modules(1, 11, 0, 1, 2, 3, 4, 5, 6, 7, 8, 9, 10);
+    }
+
+    private static void elevenAreBound() {
+        Check c = new Check();
+        for (char n = 'a'; n < 'l'; n++) {
+            c.lines("module 0 " + n, "provides s");
+        }
+        c.lines("module 0 l", "uses s");
+        c.layer("l", 0, -1, true, 0);
+        c.members(0, 11, 0, 1, 2, 3, 4, 5, 6, 7, 8, 9, 10);
     }
 }

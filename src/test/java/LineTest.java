@@ -25,30 +25,30 @@ public final class LineTest {
     private static void newObject() {
         Check c = new Check();
         c.counts(0, 0, 0);
-        c.fault(0);
-        Check.due("modules 0", c.desk.modules(0), -1);
+        c.faultIs(0);
+        c.modulesAre(0, -1);
         c.lineIsEmpty();
     }
 
     private static void write() {
         Check c = new Check();
         for (int code = 0; code < 32; code++) {
-            Check.due("write " + code, c.desk.write((char) code) ? 1 : 0, 0);
+            Check.due("write " + code, c.write(code), 0);
         }
         for (int code : new int[] {127, 128, 255, 256 + 'a', 65535}) {
-            Check.due("write " + code, c.desk.write((char) code) ? 1 : 0, 0);
+            Check.due("write " + code, c.write(code), 0);
         }
         c.lineIsEmpty();
         for (int code = 32; code <= 126; code++) {
-            Check.due("write " + code, c.desk.write((char) code) ? 1 : 0, 1);
+            Check.due("write " + code, c.write(code), 1);
             if (code % 40 == 0) {
                 c.line("", IAE);
             }
         }
         Check full = new Check();
         full.write("module 0 abcd                           ");
-        Check.due("write beyond 40", full.desk.write('e') ? 1 : 0, 0);
-        Check.due("write beyond 40", full.desk.write(' ') ? 1 : 0, 0);
+        Check.due("write beyond 40", full.write('e'), 0);
+        Check.due("write beyond 40", full.write(' '), 0);
         full.line("", 1);
         full.write("package x");
         full.line("", 2);
@@ -66,8 +66,6 @@ public final class LineTest {
     }
 
     private static void malformed() {
-        Check c = new Check();
-        c.lines("module 0 a", "package p");
         for (String text : new String[] {
             "a", "modul 0 b", "modules 0 b", "Module 0 b", "module", "module 0", "module b", "module 0 b c",
             "module 2 b", "module 00 b", "module 01 b", "module -1 b", "module 0 abcde", "module 0 B", "module 0 b1",
@@ -80,10 +78,12 @@ public final class LineTest {
             "requires transitive static b c", "requires Static b", "requires abcde", "uses", "uses s t", "uses S",
             "uses abcde", "provides", "provides s t", "provides 1", "provides abcde", "close", "0", "to",
             "a b c d e f g h i j k l m n o p q r s t"}) {
+            Check c = new Check();
+            c.lines("module 0 a", "package p");
             c.line(text, IAE);
             c.lineIsEmpty();
+            c.counts(1, 0, 0);
         }
-        c.counts(1, 0, 0);
     }
 
     private static void moduleLines() {

@@ -2,20 +2,23 @@ import java.util.Random;
 
 /** Runs of chance calls, the same in every run of the test, held against PlainDesk. */
 public final class RandomRunsTest {
-    private static final int RUNS = 6000;
-    private static final int STEPS = 100;
-    private static final int DESCRIBING_STEPS = 60;
+    private static final int RUNS = 40000;
+    /** The dearest step: a text of a full line, its call, and a call that asks for the fault. */
+    private static final int CALLS_OF_A_STEP = 42;
 
     private final Random random;
     private final Check real = new Check();
     private final PlainDesk plain = new PlainDesk();
     private final String[] names;
+    /** Modules that require earlier ones alone, so that most layers are made. */
+    private final boolean orderly;
 
     private RandomRunsTest(long seed) {
         random = new Random(seed);
         String[] few = {"a", "b", "c", "d"};
         String[] many = {"a", "b", "c", "d", "e", "f", "gg", "hhhh"};
-        names = seed % 3 == 0 ? few : many;
+        names = seed % 3 == 0 ? many : few;
+        orderly = seed % 2 == 0;
     }
 
     public static void main(String[] args) {
@@ -32,19 +35,42 @@ public final class RandomRunsTest {
     }
 
     private void run(int[] outcomes) {
-        for (int step = 0; step < STEPS; step++) {
-            if (random.nextInt(step < DESCRIBING_STEPS ? 40 : 2) == 0) {
-                layerStep(outcomes);
-            } else if (random.nextInt(25) == 0) {
-                int layer = random.nextInt(7) - 1;
-                due("close " + layer, real.desk.close(layer) ? 1 : 0, plain.close(layer) ? 1 : 0);
-            } else {
-                String text = lineText();
-                due("line " + text, real.line(text), plain.line(text));
-            }
-            queries();
+        int forLayersAndQueries = 100 + random.nextInt(100);
+        while (real.callsLeft() > forLayersAndQueries) {
+            step(60, outcomes);
         }
-        sweep(outcomes);
+        int forQueries = 60 + random.nextInt(30);
+        while (real.callsLeft() > forQueries) {
+            step(3, outcomes);
+        }
+        while (real.callsLeft() > CALLS_OF_A_STEP) {
+            query(outcomes);
+        }
+        for (int what = -1; what < 4; what++) {
+            due("count " + what, real.count(what), plain.count(what));
+        }
+    }
+
+    private void step(int linesForEachLayer, int[] outcomes) {
+        int chance = random.nextInt(linesForEachLayer);
+        if (chance == 0 || chance == 1 && linesForEachLayer < 10) {
+            layerStep(outcomes);
+        } else if (random.nextInt(25) == 0) {
+            int layer = random.nextInt(7) - 1;
+            due("close " + layer, real.close(layer), plain.close(layer) ? 1 : 0);
+        } else if (random.nextInt(20) == 0) {
+            query(outcomes);
+        } else {
+            String text = lineText();
+            lineStep(text);
+            if (text.startsWith("package ") && random.nextBoolean()) {
+                lineStep(text.replace("package ", "exports "));
+            }
+        }
+    }
+
+    private void lineStep(String text) {
+        due("line " + text, real.line(text), plain.line(text));
     }
 
     private void due(String what, int got, int want) {
@@ -63,28 +89,47 @@ public final class RandomRunsTest {
         return random.nextInt(3) == 0 ? pick("q", "r", "s", "t", "u", "v") : "p";
     }
 
+    private String moduleText() {
+        if (!orderly) {
+            return "module " + random.nextInt(2) + " " + name();
+        }
+        int finder = random.nextInt(5) == 0 ? 1 : 0;
+        return "module " + finder + " " + (char) ('a' + plain.count(0));
+    }
+
+    private String requiredName() {
+        int earlier = plain.count(0) - 1;
+        return !orderly || earlier < 1 || random.nextInt(12) == 0 ? name() : "" + (char) ('a' + random.nextInt(earlier));
+    }
+
+    private String rootName() {
+        return orderly ? "" + (char) ('a' + random.nextInt(Math.max(1, plain.count(0)))) : name();
+    }
+
     private String lineText() {
-        switch (random.nextInt(14)) {
+        switch (random.nextInt(16)) {
             case 0:
-            case 12:
-                return "module " + random.nextInt(2) + " " + name();
             case 1:
             case 2:
             case 3:
-                return "package " + packageName();
+                return moduleText();
             case 4:
-            case 13:
-                return pick("exports ", "opens ") + packageName();
             case 5:
-                return pick("exports ", "opens ") + packageName() + " to " + name();
+                return "package " + packageName();
             case 6:
-                return "requires " + pick("static ", "transitive static ") + name();
+                return pick("exports ", "opens ") + packageName();
             case 7:
+                return pick("exports ", "opens ") + packageName() + " to " + name();
             case 8:
-                return "requires " + pick("", "transitive ", "transitive ") + name();
+                return "requires " + pick("static ", "transitive static ") + requiredName();
             case 9:
-                return "uses " + pick("s", "t", "u", "v");
             case 10:
+            case 11:
+                return "requires " + pick("", "", "transitive ") + requiredName();
+            case 12:
+                return "uses " + pick("s", "t", "u", "v");
+            case 13:
+            case 14:
                 return "provides " + pick("s", "t", "u", "v");
             default:
                 return pick("", " ", "  requires  " + name() + " ", "requires static transitive a", "module 2 a",
@@ -93,22 +138,22 @@ public final class RandomRunsTest {
     }
 
     private void layerStep(int[] outcomes) {
-        StringBuilder roots = new StringBuilder(name());
+        StringBuilder roots = new StringBuilder(rootName());
         for (int more = random.nextInt(4); more > 1; more--) {
-            roots.append(' ').append(name());
+            roots.append(' ').append(rootName());
         }
         if (random.nextInt(30) == 0) {
             roots.append(" a b c");
         }
-        int finder = random.nextInt(30) == 0 ? 2 : random.nextInt(2);
+        int finder = random.nextInt(30) == 0 ? 2 : random.nextInt(orderly ? 6 : 2) / (orderly ? 5 : 1);
         int parent = random.nextInt(7) - 1;
-        if (plain.modules(parent) < 0 && random.nextInt(4) != 0) {
-            parent = -1;
+        if (plain.modules(parent) < 0 && random.nextInt(6) != 0) {
+            parent = plain.count(1) - 1;
         }
         boolean binds = random.nextBoolean();
         int got = real.layer(roots.toString(), finder, parent, binds);
         due("layer " + roots, got, plain.layer(roots.toString(), finder, parent, binds));
-        due("fault", real.desk.fault(), plain.fault());
+        due("fault", real.fault(), plain.fault());
         if (got >= 0) {
             outcomes[0]++;
         } else if (got == Check.ISE) {
@@ -118,52 +163,39 @@ public final class RandomRunsTest {
         }
     }
 
-    private void queries() {
-        int layer = random.nextInt(7) - 1;
-        int k = random.nextInt(7) - 1;
-        int target = random.nextInt(7) - 1;
-        int descriptor = random.nextInt(14) - 1;
-        due("reads", real.desk.reads(layer, k, target, descriptor) ? 1 : 0,
-                plain.reads(layer, k, target, descriptor) ? 1 : 0);
+    /** A layer that is mostly one that was made. */
+    private int someLayer() {
+        return random.nextInt(20) == 0 ? random.nextInt(8) - 1 : random.nextInt(Math.max(1, plain.count(1)));
+    }
+
+    private void query(int[] outcomes) {
+        int layer = someLayer();
+        int k = random.nextInt(20) == 0 ? random.nextInt(15) - 1 : random.nextInt(Math.max(1, plain.modules(layer)));
+        int target = random.nextBoolean() ? layer : someLayer();
+        int descriptor = random.nextInt(20) == 0 ? random.nextInt(15) - 1
+                : plain.module(target, random.nextInt(Math.max(1, plain.modules(target))));
         String text = random.nextInt(12) == 0 ? pick("", "p q", "P") : packageName();
-        due("load", real.load(text, layer, k), plain.load(text, layer, k));
-        due("peek", real.peek(text, layer, k, target, descriptor), plain.peek(text, layer, k, target, descriptor));
-        due("provider", real.provider(text, layer, k), plain.provider(text, layer, k));
-    }
-
-    private void sweep(int[] outcomes) {
-        for (int what = -1; what < 4; what++) {
-            due("count " + what, real.desk.count(what), plain.count(what));
-        }
-        for (int layer = -1; layer < 6; layer++) {
-            due("modules " + layer, real.desk.modules(layer), plain.modules(layer));
-            for (int k = -1; k < 13; k++) {
-                due("module", real.desk.module(layer, k), plain.module(layer, k));
-                if (plain.module(layer, k) >= 0) {
-                    sweepModule(layer, k, outcomes);
-                }
-            }
-            for (int i = 0; i < 4; i++) {
-                due("provider", real.provider("s", layer, i), plain.provider("s", layer, i));
-            }
-        }
-    }
-
-    private void sweepModule(int layer, int k, int[] outcomes) {
-        for (int target = 0; target < 5; target++) {
-            for (int descriptor = 0; descriptor < 12; descriptor++) {
+        switch (random.nextInt(8)) {
+            case 0:
+                due("load", real.load(text, layer, k), plain.load(text, layer, k));
+                break;
+            case 1:
+                due("peek", real.peek(text, layer, k, target, descriptor),
+                        plain.peek(text, layer, k, target, descriptor));
+                break;
+            case 2:
+                due("provider", real.provider(text, layer, k), plain.provider(text, layer, k));
+                break;
+            case 3:
+                due("modules " + layer, real.modules(layer), plain.modules(layer));
+                break;
+            case 4:
+                due("module", real.module(layer, k), plain.module(layer, k));
+                break;
+            default:
                 boolean want = plain.reads(layer, k, target, descriptor);
-                due("reads", real.desk.reads(layer, k, target, descriptor) ? 1 : 0, want ? 1 : 0);
+                due("reads", real.reads(layer, k, target, descriptor), want ? 1 : 0);
                 outcomes[want ? 6 : 7]++;
-                if (plain.modules(target) >= 0 && random.nextInt(4) == 0) {
-                    String text = packageName();
-                    due("peek", real.peek(text, layer, k, target, descriptor),
-                            plain.peek(text, layer, k, target, descriptor));
-                }
-            }
-        }
-        for (String text : new String[] {"p", "q", "r", "s", "t", "u", "v"}) {
-            due("load", real.load(text, layer, k), plain.load(text, layer, k));
         }
     }
 }

@@ -24,7 +24,7 @@ public final class ReadingTest {
         Check c = new Check();
         c.lines("module 0 a", "requires b", "requires static d", "module 0 b", "requires c", "module 0 c", "module 0 d");
         c.layer("a", 0, -1, false, 0);
-        c.modules(0, 0, 1, 2);
+        c.members(0, 0, 1, 2);
         c.reads(0, 0, 0, 1, true);
         c.reads(0, 0, 0, 2, false);
         c.reads(0, 0, 0, 3, false);
@@ -32,7 +32,7 @@ public final class ReadingTest {
         c.reads(0, 1, 0, 0, false);
         c.reads(0, 2, 0, 1, false);
         c.layer("d a", 0, -1, false, 1);
-        c.modules(1, 3, 0, 1, 2);
+        c.members(1, 3, 0, 1, 2);
         c.reads(1, 1, 1, 3, true);
         c.reads(1, 0, 1, 0, false);
         c.reads(1, 1, 0, 1, false);
@@ -65,7 +65,7 @@ public final class ReadingTest {
                 "requires e", "requires c");
         c.layer("b", 0, -1, false, 0);
         c.layer("a c e", 1, 0, false, 1);
-        c.modules(1, 2, 3, 5, 4);
+        c.members(1, 2, 3, 5, 4);
         c.reads(1, 0, 0, 0, true);
         c.reads(1, 0, 0, 1, true);
         c.reads(1, 0, 1, 3, true);
@@ -75,7 +75,7 @@ public final class ReadingTest {
         c.reads(1, 2, 1, 4, true);
         c.reads(1, 2, 0, 0, false);
         c.layer("f", 0, 1, false, 2);
-        c.modules(2, 6, 1);
+        c.members(2, 6, 1);
         c.reads(2, 0, 1, 5, true);
         c.reads(2, 0, 1, 4, true);
         c.reads(2, 0, 2, 1, true);
@@ -92,7 +92,7 @@ public final class ReadingTest {
         c.layer("c", 0, -1, false, 0);
         c.layer("b", 1, 0, false, 1);
         c.layer("a f", 0, 1, false, 2);
-        c.modules(2, 3, 5, 4);
+        c.members(2, 3, 5, 4);
         for (int k = 0; k < 3; k++) {
             c.reads(2, k, 1, 2, true);
             c.reads(2, k, 0, 1, true);
@@ -112,7 +112,7 @@ public final class ReadingTest {
             c.layer("d", 0, -1, false, 0);
             c.layer(order, 0, 0, false, 1);
             for (int k = 0; k < 3; k++) {
-                int reader = c.desk.module(1, k);
+                int reader = c.module(1, k);
                 for (int other = 0; other < 3; other++) {
                     c.reads(1, k, 1, other, other > reader);
                 }
@@ -126,7 +126,7 @@ public final class ReadingTest {
         c.lines("module 0 a", "requires b", "package p", "exports p", "module 0 b",
                 "requires transitive static a", "module 0 c", "requires b");
         c.layer("a c", 0, -1, false, 0);
-        c.modules(0, 0, 1, 2);
+        c.members(0, 0, 1, 2);
         c.reads(0, 0, 0, 0, false);
         c.reads(0, 0, 0, 1, true);
         c.reads(0, 1, 0, 0, true);
@@ -163,7 +163,7 @@ public final class ReadingTest {
                 "exports r to e", "exports r to a", "package s", "exports s to c", "package t", "opens t", "package p",
                 "requires transitive c", "module 0 c", "package u", "exports u", "module 0 d", "package v", "exports v");
         c.layer("d a", 0, -1, false, 0);
-        c.modules(0, 3, 0, 1, 2);
+        c.members(0, 3, 0, 1, 2);
         c.load("p", 0, 1, 0);
         c.lineIsEmpty();
         c.load("q", 0, 1, 1);
@@ -221,7 +221,7 @@ public final class ReadingTest {
                 "opens r to e", "opens r to a", "package s", "opens s to c", "package t", "exports t", "module 0 c",
                 "requires b", "package u", "opens u", "module 0 d", "package v", "opens v to a", "opens v");
         c.layer("a c d", 0, -1, false, 0);
-        c.modules(0, 0, 1, 2, 3);
+        c.members(0, 0, 1, 2, 3);
         c.peek("p", 0, 0, 0, 0, 1);
         c.lineIsEmpty();
         c.peek("t", 0, 1, 0, 1, 1);

@@ -42,7 +42,7 @@ public final class StateTest {
     private static void counting() {
         Check c = new Check();
         for (int what : new int[] {-1, 3, 4, Integer.MAX_VALUE, Integer.MIN_VALUE}) {
-            Check.due("count " + what, c.desk.count(what), -1);
+            c.count(what, -1);
         }
         c.lines("module 0 a", "package p", "module 1 a");
         c.counts(2, 0, 0);
@@ -60,20 +60,20 @@ public final class StateTest {
         c.lines("module 0 a", "requires c", "module 1 b", "module 0 c");
         c.layer("a", 0, -1, false, 0);
         c.layer("b", 1, 0, false, 1);
-        c.modules(0, 0, 2);
-        c.modules(1, 1);
+        c.members(0, 0, 2);
+        c.members(1, 1);
         for (int outside : OUTSIDE) {
-            Check.due("modules " + outside, c.desk.modules(outside), -1);
-            Check.due("module " + outside + " 0", c.desk.module(outside, 0), -1);
-            Check.due("module 0 " + outside, c.desk.module(0, outside), -1);
+            c.modulesAre(outside, -1);
+            c.module(outside, 0, -1);
+            c.module(0, outside, -1);
         }
-        Check.due("modules 2", c.desk.modules(2), -1);
-        Check.due("module 2 0", c.desk.module(2, 0), -1);
-        Check.due("module 0 2", c.desk.module(0, 2), -1);
+        c.modulesAre(2, -1);
+        c.module(2, 0, -1);
+        c.module(0, 2, -1);
         c.close(1, true);
-        Check.due("modules of a closed one", c.desk.modules(1), -1);
-        Check.due("module of a closed one", c.desk.module(1, 0), -1);
-        c.modules(0, 0, 2);
+        c.modulesAre(1, -1);
+        c.module(1, 0, -1);
+        c.members(0, 0, 2);
     }
 
     private static void lineIsLeftAlone() {
@@ -81,9 +81,9 @@ public final class StateTest {
         c.lines("module 0 a");
         c.layer("a", 0, -1, false, 0);
         c.write("module 0 ");
-        c.fault(0);
+        c.faultIs(0);
         c.counts(1, 1, 1);
-        c.modules(0, 0);
+        c.members(0, 0);
         c.reads(0, 0, 0, 0, false);
         c.close(0, true);
         c.line("b", 1);
