@@ -11,8 +11,6 @@ final class Check {
     /** What later calls answer is free, so that no test may hold the desk to it. */
     static final int CALLS_MOST = 512;
 
-    static final int[] FAR_OUTSIDE = {-1, 16, 32, Integer.MAX_VALUE, Integer.MIN_VALUE};
-
     private static int answers = 0;
     private static int wrong = 0;
 

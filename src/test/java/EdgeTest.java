@@ -18,6 +18,7 @@ public final class EdgeTest {
     public static void main(String[] args) {
         newObject();
         objectsAreApart();
+        lastCall();
         writtenCharacters();
         fortyWritten();
         everyTakerEmptiesTheLine();
@@ -96,6 +97,27 @@ public final class EdgeTest {
         other.layer("a", 0, -1, false, NSEE);
         other.layer("b", 1, -1, false, 0);
         one.members(0, 0);
+    }
+
+    /** "used for at most 512 calls after it has been made": the last of them is answered like the first. */
+    private static void lastCall() {
+        Stand.Deed[] calls = {c -> c.count(2, 2), c -> c.members(1, 1), c -> c.layer("b", 1, 0, true, 2),
+            c -> c.reads(1, 0, 0, 0, true), c -> c.load("p", 1, 0, 0), c -> c.peek("p", 0, 0, 0, 0, 1),
+            c -> c.provider("s", 1, 0, 17), c -> c.close(1, true), c -> c.line("module 0 c", 1)};
+        for (Stand.Deed call : calls) {
+            Check first = new Check();
+            twoLayers(first);
+            int left = first.callsLeft();
+            call.on(first);
+            int needed = left - first.callsLeft();
+            Check c = new Check();
+            twoLayers(c);
+            while (c.callsLeft() > needed) {
+                c.fault();
+            }
+            call.on(c);
+            Check.due("calls left", c.callsLeft(), 0);
+        }
     }
 
     // Promise 2

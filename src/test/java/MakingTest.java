@@ -50,12 +50,6 @@ public final class MakingTest {
         Check.end();
     }
 
-    private static void lettered(Check c, int finder, char first, char last) {
-        for (char name = first; name <= last; name++) {
-            c.lines("module " + finder + " " + name);
-        }
-    }
-
     /** A layer that must not be made; all but the fault stands as it was, and the line is empty. */
     private static void refused(Stand.Deed before, String roots, int finder, int parent, boolean binds, int want,
             int wantFault) {
