@@ -263,6 +263,16 @@ public final class EdgeTest {
             refusedLine(before, "exports n", IAE);
             refusedLine(before, "requires a", IAE);
         }
+        Stand.Deed rich = c -> {
+            c.lines("module 0 a", "package p", "exports p", "opens p to e", "requires static b", "uses s", "provides t");
+            c.layer("a", 0, -1, false, 0);
+        };
+        for (String text : new String[] {"exports p", "exports p to e", "opens p to e", "uses t", "provides s"}) {
+            refusedLine(rich, text, ISE);
+        }
+        for (String text : new String[] {"package p", "opens q", "requires b", "requires a", "uses s", "provides t"}) {
+            refusedLine(rich, text, IAE);
+        }
         for (String text : ABOUT) {
             Check other = new Check();
             other.lines("module 0 b", "module 0 a", "package p");
