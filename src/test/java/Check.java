@@ -47,15 +47,20 @@ final class Check {
         }
         try {
             return call.answer();
-        } catch (IllegalArgumentException e) {
-            return IAE;
-        } catch (NoSuchElementException e) {
-            return NSEE;
-        } catch (IllegalStateException e) {
-            return ISE;
         } catch (RuntimeException e) {
-            return OTHER;
+            return numberOf(e.getClass());
         }
+    }
+
+    /** Only the very classes that the document names, no class that extends one of them. */
+    private static int numberOf(Class<?> thrown) {
+        if (thrown == IllegalArgumentException.class) {
+            return IAE;
+        }
+        if (thrown == IllegalStateException.class) {
+            return ISE;
+        }
+        return thrown == NoSuchElementException.class ? NSEE : OTHER;
     }
 
     // Each call of the face: true is 1, false is 0.

@@ -5,13 +5,26 @@ import java.lang.reflect.Modifier;
 import java.util.Arrays;
 import java.util.Set;
 import java.util.TreeSet;
+import java.util.stream.Collectors;
 
 /** The public face: what the document writes out, and nothing beside it. */
 public final class FaceTest {
+    private static final String ARGUMENT = "IllegalArgumentException";
+    private static final String STATE = "IllegalStateException";
+    private static final String ELEMENT = "NoSuchElementException";
     private static final String[] FACE = {
-        "boolean close(int)", "boolean peek(int,int,int,int)", "boolean reads(int,int,int,int)", "boolean write(char)",
-        "int count(int)", "int fault()", "int layer(int,int,boolean)", "int line()", "int load(int,int)",
-        "int module(int,int)", "int modules(int)", "int provider(int,int)"};
+        "boolean write(char)",
+        "int line() throws " + ARGUMENT + "," + STATE,
+        "int layer(int,int,boolean) throws " + ARGUMENT + "," + ELEMENT + "," + STATE,
+        "int fault()",
+        "boolean close(int)",
+        "int count(int)",
+        "int modules(int)",
+        "int module(int,int)",
+        "boolean reads(int,int,int,int)",
+        "int load(int,int) throws " + ARGUMENT + "," + ELEMENT,
+        "boolean peek(int,int,int,int) throws " + ARGUMENT + "," + ELEMENT,
+        "int provider(int,int) throws " + ARGUMENT};
 
     public static void main(String[] args) {
         Set<String> visible = new TreeSet<>();
@@ -47,14 +60,13 @@ public final class FaceTest {
     }
 
     private static String textOf(Method method) {
-        StringBuilder text = new StringBuilder();
-        text.append(method.getReturnType().getName()).append(' ').append(method.getName()).append('(');
-        for (Class<?> parameter : method.getParameterTypes()) {
-            if (text.charAt(text.length() - 1) != '(') {
-                text.append(',');
-            }
-            text.append(parameter.getName());
-        }
-        return text.append(')').toString();
+        String text = method.getReturnType().getName() + " " + method.getName()
+                + "(" + namesOf(method.getParameterTypes()) + ")";
+        String thrown = namesOf(method.getExceptionTypes());
+        return thrown.isEmpty() ? text : text + " throws " + thrown;
+    }
+
+    private static String namesOf(Class<?>[] types) {
+        return Arrays.stream(types).map(Class::getSimpleName).collect(Collectors.joining(","));
     }
 }
